@@ -36,7 +36,7 @@ public final class EyeRota {
     private final Family[] images = new Family[IMAGES];
     private final boolean[] imageStands = new boolean[IMAGES];
     private final Rows seen = new Rows(4, SEEN_LIMIT);
-    private final Tape tape = new Tape();
+    private final Rows tape = new Rows(1, TAPE_LIMIT);
     private final Reader reader = new Reader(tape);
     private final Page[] pages = new Page[SHEETS];
     private final Sight sight = new Sight();
@@ -62,7 +62,7 @@ public final class EyeRota {
         if (c < 0 || c > 127) {
             return BAD;
         }
-        return tape.append(c);
+        return tape.add(c, 0, 0, 0);
     }
 
     public int end(int n) {
@@ -595,7 +595,7 @@ public final class EyeRota {
         return answers[(slot * KIN_LIMIT + k) * THINGS + i];
     }
 
-    /** Rows of numbers up to a limit; made once, so that no call has to make anything. */
+    /** Rows of numbers up to a limit; made once, so that no call has to make anything. A row ends with its width. */
     private static final class Rows {
         final int width;
         final int limit;
@@ -1129,35 +1129,6 @@ public final class EyeRota {
         }
     }
 
-    /** THE TAPE: bytes that wait to be read as a text. */
-    private static final class Tape {
-        final int[] bytes = new int[TAPE_LIMIT];
-        int size;
-
-        int append(int c) {
-            if (size >= TAPE_LIMIT) {
-                return FULL;
-            }
-            bytes[size] = c;
-            size++;
-            return size;
-        }
-
-        int cutTo(int n) {
-            if (n < 0 || n > size) {
-                return BAD;
-            }
-            int before = size;
-            size = n;
-            return before;
-        }
-
-        /** The byte at a place; BAD, which is no byte, behind the end. */
-        int byteAt(int place) {
-            return place >= 0 && place < size ? bytes[place] : BAD;
-        }
-    }
-
     /** Reads a tape into a draft, TOKEN by TOKEN, up to the first FAULT. */
     private static final class Reader {
         static final int END = 0;
@@ -1175,7 +1146,7 @@ public final class EyeRota {
         static final int NOBODY = 5;
 
         final Family draft = new Family();
-        final Tape source;
+        final Rows source;
         int lines;
         int faultMet;
         int faultPlace;
@@ -1186,7 +1157,7 @@ public final class EyeRota {
         private int thingsTold;
         private boolean isRotaTold;
 
-        Reader(Tape tape) {
+        Reader(Rows tape) {
             source = tape;
         }
 
@@ -1227,11 +1198,11 @@ public final class EyeRota {
         }
 
         private boolean takeToken() {
-            while (next < source.size && source.byteAt(next) == ' ') {
+            while (next < source.size && source.at(next, 0) == ' ') {
                 next++;
             }
             place = next;
-            int c = source.byteAt(place);
+            int c = source.at(place, 0);
             if (place >= source.size) {
                 token = END;
             } else if (isLetter(c)) {
@@ -1250,18 +1221,18 @@ public final class EyeRota {
         }
 
         private void passLetters() {
-            while (next < source.size && isLetter(source.byteAt(next))) {
+            while (next < source.size && isLetter(source.at(next, 0))) {
                 next++;
             }
         }
 
         private boolean takeFigures() {
             number = 0;
-            while (next < source.size && isFigure(source.byteAt(next))) {
+            while (next < source.size && isFigure(source.at(next, 0))) {
                 if (next - place >= 2) {
                     return meet(NO_TOKEN);
                 }
-                number = number * TEN + source.byteAt(next) - '0';
+                number = number * TEN + source.at(next, 0) - '0';
                 next++;
             }
             return true;
@@ -1272,7 +1243,7 @@ public final class EyeRota {
                 return false;
             }
             for (int i = 0; i < word.length(); i++) {
-                if (source.byteAt(place + i) != word.charAt(i)) {
+                if (source.at(place + i, 0) != word.charAt(i)) {
                     return false;
                 }
             }

@@ -107,6 +107,9 @@ public final class BeliefTest {
         for (int i = 0; i < 5; i++) {
             due.is("work(" + i + ", 4)", x.work(i, 4), each[i]);
         }
+        x.shift(0, NONE);
+        due.is("done(0) without the first", x.done(0), 0b00110);
+        due.is("done(1) without the first", x.done(1), 13);
         due.is("done(2)", x.done(2), EyeRota.BAD);
         due.is("done(-1)", x.done(-1), EyeRota.BAD);
     }

@@ -8,6 +8,8 @@ public final class BestTest {
         bestByTryingAll("dreamer 0;plain 1;work 0 0 5 9;work 0 6 6 4;work 1 6 6 4;");
         bestByTryingAll("old 0;");
         bestApart();
+        bestInTurn();
+        bestAnew();
         bestAnswers();
         swaps();
         gifts();
@@ -62,6 +64,45 @@ public final class BestTest {
         due.is("best(0) by another kind", x.best(0), 0);
     }
 
+    /** A way that looks good only if it is forgotten who had the eye in the hour ahead. */
+    private static void bestInTurn() {
+        EyeRota x = Due.told("plain 0;plain 0;plain 0;work 2 4 4 9;work 0 5 5 3;work 1 5 5 3;");
+        due.is("best(0)", x.best(0), 12);
+        int[] who = {0, 0, 0, 0, 2, 1, 0, 0, 0, 0};
+        // ONE 2 sees in hour 4 only if 0 does not have it in hour 3
+        who[3] = 1;
+        for (int h = 0; h < 10; h++) {
+            due.is("in turn, best(" + (10 + h) + ")", x.best(10 + h), who[h]);
+        }
+    }
+
+    /** What was planned is planned anew when KIN or WORK are others, as many as they were. */
+    private static void bestAnew() {
+        EyeRota x = Due.told("plain 0;plain 0;work 0 0 1 3;work 0 0 1 3;");
+        due.is("best(0)", x.best(0), 6);
+        x.drop(2, 0);
+        x.assign(1, 6, 7, 4);
+        x.assign(1, 6, 7, 5);
+        due.is("best(0) of other work", x.best(0), 9);
+        due.is("best(16) of other work", x.best(16), 0);
+        due.is("best(17) of other work", x.best(17), 1);
+        x.alter(1, 0, 1);
+        due.is("best(0) of other kin", x.best(0), 0);
+        x.alter(1, 0, 3);
+        x.alter(0, 0, 3);
+        x.alter(0, 1, 1);
+        x.alter(1, 1, 1);
+        x.drop(2, 0);
+        x.assign(0, 0, 5, 9);
+        x.assign(0, 9, 9, 1);
+        due.is("best(0) of all others", x.best(0), 1);
+        Due.tell(x, "old 0;");
+        due.is("best(0) of another text", x.best(0), 0);
+        due.is("best(10) of another text", x.best(10), 0);
+        x.text();
+        due.is("best(10) of nobody", x.best(10), NONE);
+    }
+
     private static void bestAnswers() {
         EyeRota x = Due.told("plain 0;work 0 3 3 2;");
         for (int what : new int[] {-1, 1, 9, 20, NONE}) {
@@ -83,6 +124,8 @@ public final class BestTest {
         EyeRota y = Due.told("plain 0;rota 0 0;work 0 5 6 5;");
         due.is("of several the least", y.swap(0), 5);
         due.is("its worth", y.swap(1), 5);
+        EyeRota beside = Due.told("plain 0;rota 5 5 5 0;work 0 4 4 5;");
+        due.is("hours beside one another", beside.swap(0), 34);
         EyeRota z = Due.told("plain 0;rota 0;work 0 0 9 5;");
         due.is("by none, 0", z.swap(0), NONE);
         due.is("by none, 1", z.swap(1), NONE);
@@ -91,6 +134,8 @@ public final class BestTest {
     }
 
     private static void gifts() {
+        EyeRota first = Due.told("plain 0;work 0 0 0 3;");
+        due.is("hour 0 to the first", first.give(0), 0);
         EyeRota x = Due.told("plain 0;plain 0;plain 0;work 2 4 6 5;work 1 5 5 6;rota 5 5 5 5 1 0;");
         due.is("give(0)", x.give(0), 51);
         due.is("give(1)", x.give(1), 6);
@@ -120,6 +165,7 @@ public final class BestTest {
         due.is("behind the other tellings", x.mend(0), 2);
         EyeRota y = Due.told("old 0;rota 0;");
         due.is("all are right", y.mend(0), 0);
+        due.is("one alone believes nothing", y.mend(1), NONE);
         due.is("nobody there", new EyeRota().mend(2), 0);
     }
 }
