@@ -457,10 +457,10 @@ public final class EyeRota {
         Page page = pages[k];
         takeTrial();
         int came = 0;
-        int fault = page.faultAs(lane);
+        int fault = 0;
         while (came < n && fault == 0) {
             int cell = f + 2 * came;
-            fault = page.faultOfPair(cell);
+            fault = page.faultOfPair(lane, cell);
             if (fault == 0) {
                 int hour = page.cellAt(cell);
                 int who = page.cellAt(cell + 1);
@@ -1425,11 +1425,6 @@ public final class EyeRota {
             }
         }
 
-        /** A cast refuses another lane, but lets nothing pass: that is found at the first CELL. */
-        int faultAs(int otherLane) {
-            return length != NONE && lane != otherLane ? FAULT_CAST : 0;
-        }
-
         int faultAt(int i) {
             if (length == NONE) {
                 return FAULT_NULL;
@@ -1437,7 +1432,11 @@ public final class EyeRota {
             return i < 0 || i >= length ? FAULT_INDEX : 0;
         }
 
-        int faultOfPair(int i) {
+        /** A cast refuses another lane ahead of any CELL, but lets nothing pass: that is found at the CELL. */
+        int faultOfPair(int asLane, int i) {
+            if (length != NONE && lane != asLane) {
+                return FAULT_CAST;
+            }
             int fault = faultAt(i);
             return fault != 0 ? fault : faultAt(i + 1);
         }

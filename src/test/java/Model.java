@@ -666,14 +666,13 @@ final class Model {
         World before = w.copy();
         int came = 0, found = 0;
         try {
-            byte[] bytes = lane == 0 ? (byte[]) sheets[k] : null;
-            short[] shorts = lane == 1 ? (short[]) sheets[k] : null;
-            int[] ints = lane == 2 ? (int[]) sheets[k] : null;
             for (; came < n; came++) {
                 int[] pair = new int[2];
                 for (int c = 0; c < 2; c++) {
                     int at = f + 2 * came + c;
-                    pair[c] = lane == 0 ? bytes[at] : lane == 1 ? shorts[at] : ints[at];
+                    if (lane == 0) pair[c] = ((byte[]) sheets[k])[at];
+                    else if (lane == 1) pair[c] = ((short[]) sheets[k])[at];
+                    else pair[c] = ((int[]) sheets[k])[at];
                 }
                 if (shift(pair[0], pair[1]) == BAD) {
                     w = before;

@@ -8,6 +8,7 @@ public final class SheetTest {
         sheets();
         lanes();
         readings();
+        readingsOfNone();
         refusals();
         counts();
         due.close();
@@ -151,11 +152,29 @@ public final class SheetTest {
         due.is("torn() of an index", x.torn(), 2);
         due.is("read(1, 1, MIN, 20)", x.read(1, 1, Integer.MIN_VALUE, 20), 0);
         due.is("torn() of an index", x.torn(), 2);
-        // a cast is refused even if no CELL is wanted, nothing is only found at a CELL
-        x.read(1, 0, 0, 0);
-        due.is("torn() of a cast, none wanted", x.torn(), 3);
-        x.read(3, 0, 0, 0);
-        due.is("torn() of nothing, none wanted", x.torn(), 0);
+        due.is("another lane ahead of an index", x.read(1, 0, 7, 1), 0);
+        due.is("torn() of both", x.torn(), 3);
+    }
+
+    /** Where no HOUR is read, the machine refuses nothing, whatever the SHEET, its lane and the CELL are. */
+    private static void readingsOfNone() {
+        EyeRota x = Due.told("plain 0;rota 0;");
+        for (int made = -1; made < 3; made++) {
+            if (made >= 0) {
+                x.sheet(1, made, made);
+            }
+            for (int lane = 0; lane < 3; lane++) {
+                for (int f : new int[] {Integer.MIN_VALUE, -1, 0, 1, 40, Integer.MAX_VALUE}) {
+                    String call = "read(1, " + lane + ", " + f + ", 0) of lane " + made;
+                    due.is("a FAULT ahead of " + call, x.read(3, 0, 0, 1), 0);
+                    due.is("torn() ahead of " + call, x.torn(), 1);
+                    due.is(call, x.read(1, lane, f, 0), 0);
+                    due.is("torn() behind " + call, x.torn(), 0);
+                }
+            }
+        }
+        due.is("THE ROTA stays", x.rota(0), 0);
+        due.is("THE ROTA stays", x.rule(4), 1);
     }
 
     private static void refusals() {
