@@ -1353,11 +1353,11 @@ public final class EyeRota {
                 if (token == STOP) {
                     return true;
                 }
+                if (hour == HOURS && token != END) {
+                    return meet(TOO_MANY);
+                }
                 if (token != NUMBER) {
                     return meet(MISPLACED);
-                }
-                if (hour == HOURS) {
-                    return meet(TOO_MANY);
                 }
                 if (number > NOBODY) {
                     return meet(OUT_OF_BOUNDS);
