@@ -1353,11 +1353,12 @@ public final class EyeRota {
                 if (token == STOP) {
                     return true;
                 }
-                if (hour == HOURS && token != END) {
-                    return meet(TOO_MANY);
-                }
                 if (token != NUMBER) {
                     return meet(MISPLACED);
+                }
+                // A NUMBER too many is refused ahead of a look at its bounds.
+                if (hour >= HOURS) {
+                    return meet(TOO_MANY);
                 }
                 if (number > NOBODY) {
                     return meet(OUT_OF_BOUNDS);

@@ -171,8 +171,8 @@ final class Model {
                 rotaTold = true;
                 int h = 0;
                 for (read(); !token.equals(";"); read()) {
-                    if (h == 10 && !token.isEmpty()) throw new Fault(5, place);
                     if (!token.matches("[0-9]+")) throw new Fault(2, place);
+                    if (h == 10) throw new Fault(5, place);
                     int k = Integer.parseInt(token);
                     if (k > 5) throw new Fault(3, place);
                     world.rota[h++] = k == 5 ? NONE : k;

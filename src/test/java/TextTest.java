@@ -147,6 +147,8 @@ public final class TextTest {
         fault("tell 0 0 1 0 0;", 2, 13);
         fault("rota 0 old;", 2, 7);
         fault("rota 5 5 5 5 5 5 5 5 5 old;", 2, 23);
+        fault("rota 5 5 5 5 5 5 5 5 5 5 rota;", 2, 25);
+        fault("rota 5 5 5 5 5 5 5 5 5 5old", 2, 24);
         fault("rota 5 5 5 5 5 5 5 5 5 5", 2, 24);
         fault("plain 0;;", 2, 8);
     }
@@ -186,8 +188,8 @@ public final class TextTest {
         fault("tell 0 0 1 0;tell 0 0 1 0;tell 0 0 1 0;tell 0 0 1 0;tell;", 5, 52);
         fault("rota 5 5 5 5 5 5 5 5 5 5 5;", 5, 25);
         fault("rota 5 5 5 5 5 5 5 5 5 5 99;", 5, 25);
-        fault("rota 5 5 5 5 5 5 5 5 5 5 rota;", 5, 25);
-        fault("rota 5 5 5 5 5 5 5 5 5 5old", 5, 24);
+        fault("rota 5 5 5 5 5 5 5 5 5 5 6;", 5, 25);
+        fault("rota 5 5 5 5 5 5 5 5 5 5 5", 5, 25);
         EyeRota x = new EyeRota();
         due.is("all that may be of KIN, turns, rota",
                 Due.tell(x, "old 1;old 1;old 1;old 1;old 1;turn 0 0 0;turn 0 0 0;turn 0 0 0;turn 0 0 0;rota 0 1 2 3 4 4 3 2 1 0;"), 10);
